@@ -39,7 +39,8 @@ public final class CoilPrices {
     private static final int AMOUNT_STEP = 5;
     private static final int MOST_AMOUNT = 2000;
     private static final int PAYABLE_NOW = 4;
-    private static final int MARK = -10;
+    // A promised change and a syntax error position are told as this minus the number.
+    private static final int OFFSET = -10;
 
     private static final int MOST_HOURS = 48;
     private static final int LAST_HOUR = 100000;
@@ -312,7 +313,7 @@ public final class CoilPrices {
     public int carryOut() {
         int error = text.errorPosition();
         if (error != NONE) {
-            return MARK - error;
+            return OFFSET - error;
         }
         save();
         text.startReading();
@@ -540,7 +541,7 @@ public final class CoilPrices {
                 till.addPromise(back);
             }
             till.payPromises();
-            return paid ? back : MARK - back;
+            return paid ? back : OFFSET - back;
         }
 
         boolean hasTimeFor(int hours) {
