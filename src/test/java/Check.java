@@ -38,6 +38,11 @@ final class Check {
         System.out.println(text);
     }
 
+    /** How many answers were wrong so far. */
+    static int wrong() {
+        return wrong;
+    }
+
     static void finish() {
         if (wrong != 0) {
             System.out.println(wrong + " wrong");

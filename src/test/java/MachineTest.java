@@ -345,7 +345,7 @@ public final class MachineTest {
 
     private static void pricesRiseAndFall() {
         CoilPrices x = machine(30, 60);
-        look(x, 0, 4);
+        Machines.look(x, 0, 4);
         int[] prices = {35, 35, 35, 30, 30};
         float demand = 2.0f;
         for (int i = 0; i < prices.length; i++) {
@@ -356,7 +356,7 @@ public final class MachineTest {
         }
         Check.due("the raises", x.coil(0, 8), 1);
         Check.due("the hour", x.value(1), 5);
-        look(x, 0, 20);
+        Machines.look(x, 0, 20);
         Check.due("pass 3", x.pass(3), 0);
         Check.due("the price", x.coil(0, 2), 45);
         Check.due("the raises", x.coil(0, 8), 4);
@@ -370,7 +370,7 @@ public final class MachineTest {
     private static void boundsOfRaisingAndFalling() {
         CoilPrices x = machine(30, 500);
         x.set(2, 100);
-        look(x, 0, 3);
+        Machines.look(x, 0, 3);
         x.set(0, 16);
         x.pass(1);
         Check.due("15 is less than raising", x.coil(0, 2), 30);
@@ -416,7 +416,7 @@ public final class MachineTest {
         for (int fading = 0; fading <= 100; fading++) {
             CoilPrices x = machine(30, 60);
             x.set(2, fading);
-            look(x, 0, 3);
+            Machines.look(x, 0, 3);
             float demand = 1.5f;
             for (int hour = 0; hour < 4; hour++) {
                 x.pass(1);
@@ -500,8 +500,8 @@ public final class MachineTest {
         x.set(2, 100);
         x.addCoil(1, 30, 60);
         x.addCoil(1, 30, 35);
-        look(x, 0, 10);
-        look(x, 1, 10);
+        Machines.look(x, 0, 10);
+        Machines.look(x, 1, 10);
         Check.due("both rise", x.pass(1), 0);
         Check.due("the count", x.coil(0, 9), 1);
         Check.due("one rises", x.pass(1), 0);
@@ -550,7 +550,7 @@ public final class MachineTest {
         Check.due("the hour", x.value(1), 99984);
         Check.badState(x, "pass(17)", () -> x.pass(17));
         Check.badArgument(x, "pass(49)", () -> x.pass(49));
-        look(x, 0, 100);
+        Machines.look(x, 0, 100);
         Check.due("the price beyond the last hour", x.priceIn(0, 48), 5 + 4 * 5 - 4 * 5);
         Check.due("pass(16)", x.pass(16), 0);
         Check.due("the hour", x.value(1), 100000);
@@ -600,15 +600,9 @@ public final class MachineTest {
         x.set(2, 100);
         for (int i = 0; i < kinds.length; i++) {
             x.addCoil(kinds[i], lowest, highest);
-            look(x, i, 10);
+            Machines.look(x, i, 10);
         }
         return x;
-    }
-
-    private static void look(CoilPrices x, int coil, int times) {
-        for (int i = 0; i < times; i++) {
-            x.look(coil);
-        }
     }
 
     private static void tubes(String when, CoilPrices x, int... coins) {

@@ -37,7 +37,7 @@ public final class TextTest {
     private static void clearText() {
         CoilPrices x = new CoilPrices();
         Check.due("clear the empty text", x.clearText(), 0);
-        write(x, "h1;h2;");
+        Machines.write(x, "h1;h2;");
         Check.due("clear six bytes", x.clearText(), 6);
         Check.due("clear again", x.clearText(), 0);
         Check.due("append then", x.append('h'), 1);
@@ -154,7 +154,7 @@ public final class TextTest {
     private static void syntaxErrorChangesNothing() {
         CoilPrices x = machine();
         x.fill(0, 1);
-        write(x, "h1;s0x1;f0x1;h");
+        Machines.write(x, "h1;s0x1;f0x1;h");
         long before = x.digest();
         Check.due("carryOut", x.carryOut(), -10 - 14);
         Check.due("the digest", x.digest(), before);
@@ -163,7 +163,7 @@ public final class TextTest {
 
     private static void ordersAreCarriedOut() {
         CoilPrices x = machine();
-        write(x, "s0x02;s1x20;f3x3;b0,1,2,3,4;h12;h1;");
+        Machines.write(x, "s0x02;s1x20;f3x3;b0,1,2,3,4;h12;h1;");
         Check.due("carryOut", x.carryOut(), 6);
         Check.due("goods 0", x.coil(0, 1), 1);
         Check.due("goods 1", x.coil(1, 1), 20);
@@ -184,7 +184,7 @@ public final class TextTest {
         y.pass(1);
         x.undo();
         Check.due("carryOut saves one state", x.value(1), 0);
-        write(x, "s0x2;s1x20;f3x3;b0,1,2,3,4;h12;h1;");
+        Machines.write(x, "s0x2;s1x20;f3x3;b0,1,2,3,4;h12;h1;");
         Check.due("carryOut again", x.carryOut(), 6);
         for (int i = 0; i < 11; i++) {
             Check.due("value " + i, x.value(i), y.value(i));
@@ -195,7 +195,7 @@ public final class TextTest {
     private static void stopsAtWrongCoil() {
         for (String wrong : new String[] {"s2x1;", "b2,9,9,9,9;", "s7x1;", "b7,1,1,1,1;"}) {
             CoilPrices x = machine();
-            write(x, "s0x3;" + wrong + "s1x4;");
+            Machines.write(x, "s0x3;" + wrong + "s1x4;");
             Check.due("carryOut up to " + wrong, x.carryOut(), 1);
             Check.due("goods 0", x.coil(0, 1), 3);
             Check.due("goods 1", x.coil(1, 1), 0);
@@ -204,7 +204,7 @@ public final class TextTest {
 
     private static void stopsAtFullCoil() {
         CoilPrices x = machine();
-        write(x, "s0x20;s1x1;s0x1;h1;");
+        Machines.write(x, "s0x20;s1x1;s0x1;h1;");
         Check.due("carryOut", x.carryOut(), 2);
         Check.due("the hour", x.value(1), 0);
         Check.due("carryOut again", x.carryOut(), 0);
@@ -216,18 +216,18 @@ public final class TextTest {
 
     private static void stopsAtImpossibleSale() {
         CoilPrices x = machine();
-        write(x, "b0,0,0,0,1;");
+        Machines.write(x, "b0,0,0,0,1;");
         Check.due("nothing to sell", x.carryOut(), 0);
         x.clearText();
-        write(x, "s0x5;b0,0,0,0,1;b0,1,0,1,0;b0,0,0,0,1;");
+        Machines.write(x, "s0x5;b0,0,0,0,1;b0,1,0,1,0;b0,0,0,0,1;");
         Check.due("too little", x.carryOut(), 2);
         Check.due("goods", x.coil(0, 1), 4);
         x.clearText();
         x.set(3, 0);
-        write(x, "b1,0,0,0,1;s1x9;b1,0,0,0,1;");
+        Machines.write(x, "b1,0,0,0,1;s1x9;b1,0,0,0,1;");
         Check.due("nothing to sell", x.carryOut(), 0);
         x.clearText();
-        write(x, "s1x9;b1,0,0,0,1;b1,0,0,0,1;b1,0,0,0,1;b1,0,0,0,1;b1,0,0,0,1;b1,0,0,0,1;");
+        Machines.write(x, "s1x9;b1,0,0,0,1;b1,0,0,0,1;b1,0,0,0,1;b1,0,0,0,1;b1,0,0,0,1;b1,0,0,0,1;");
         Check.due("beyond the limit", x.carryOut(), 6);
         Check.due("goods", x.coil(1, 1), 4);
         x.undo();
@@ -235,7 +235,7 @@ public final class TextTest {
         Check.due("a promise in a text", x.carryOut(), 7);
         Check.due("the promise", x.promise(0), 5);
         x.clearText();
-        write(x, "f0x1;");
+        Machines.write(x, "f0x1;");
         Check.due("paid by a text", x.carryOut(), 1);
         Check.due("paid by a text", x.value(6), 5);
     }
@@ -249,7 +249,7 @@ public final class TextTest {
     private static void longestText() {
         CoilPrices x = machine();
         for (int i = 0; i < 33; i++) {
-            write(x, "h1;");
+            Machines.write(x, "h1;");
         }
         Check.due("33 orders", x.carryOut(), 33);
         x.append('h');
@@ -260,10 +260,10 @@ public final class TextTest {
 
     private static void carryOutIsUndone() {
         CoilPrices x = machine();
-        write(x, "h1;h1;h1;");
+        Machines.write(x, "h1;h1;h1;");
         x.carryOut();
         x.clearText();
-        write(x, "h2;");
+        Machines.write(x, "h2;");
         x.carryOut();
         Check.due("the hour", x.value(1), 5);
         Check.due("undo", x.undo(), 3);
@@ -278,14 +278,14 @@ public final class TextTest {
 
     private static void carried(String text, int due) {
         CoilPrices x = machine();
-        write(x, text);
+        Machines.write(x, text);
         Check.due("carryOut of \"" + text + "\"", x.carryOut(), due);
         Check.due("clearText of \"" + text + "\"", x.clearText(), text.length());
     }
 
     private static void error(String text, int position) {
         CoilPrices x = machine();
-        write(x, text);
+        Machines.write(x, text);
         long before = x.digest();
         Check.due("carryOut of \"" + text + "\"", x.carryOut(), -10 - position);
         Check.due("the digest", x.digest(), before);
@@ -297,11 +297,5 @@ public final class TextTest {
         x.addCoil(0, 30, 60);
         x.addCoil(1, 45, 60);
         return x;
-    }
-
-    private static void write(CoilPrices x, String text) {
-        for (int i = 0; i < text.length(); i++) {
-            x.append(text.charAt(i));
-        }
     }
 }

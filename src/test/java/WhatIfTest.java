@@ -141,7 +141,7 @@ public final class WhatIfTest {
     private static void priceIn() {
         CoilPrices x = new CoilPrices();
         x.addCoil(0, 30, 60);
-        look(x, 0, 4);
+        Machines.look(x, 0, 4);
         long before = x.digest();
         int[] prices = {30, 35, 35, 35, 30, 30};
         for (int hours = 0; hours < prices.length; hours++) {
@@ -160,8 +160,8 @@ public final class WhatIfTest {
         x.set(2, 100);
         x.addCoil(4, 30, 60);
         x.addCoil(4, 30, 60);
-        look(x, 0, 10);
-        look(x, 1, 10);
+        Machines.look(x, 0, 10);
+        Machines.look(x, 1, 10);
         int[] prices = {30, 35, 30, 30, 30, 30, 35, 30};
         for (int hours = 0; hours < prices.length; hours++) {
             Check.due("priceIn(1, " + hours + ")", x.priceIn(1, hours), prices[hours]);
@@ -179,8 +179,8 @@ public final class WhatIfTest {
         x.set(2, 100);
         x.addCoil(4, 30, 60);
         x.addCoil(5, 30, 60);
-        look(x, 0, 10);
-        look(x, 1, 10);
+        Machines.look(x, 0, 10);
+        Machines.look(x, 1, 10);
         Check.due("priceIn(0, 3)", x.priceIn(0, 3), 45);
         Check.due("priceIn(1, 3)", x.priceIn(1, 3), 45);
     }
@@ -287,12 +287,6 @@ public final class WhatIfTest {
     private static void noWay(CoilPrices x, int... amounts) {
         for (int amount : amounts) {
             way(x, amount, CoilPrices.NONE, CoilPrices.NONE, CoilPrices.NONE, CoilPrices.NONE);
-        }
-    }
-
-    private static void look(CoilPrices x, int coil, int times) {
-        for (int i = 0; i < times; i++) {
-            x.look(coil);
         }
     }
 }
