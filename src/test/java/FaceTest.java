@@ -8,57 +8,138 @@ import java.nio.file.Path;
 import java.util.Set;
 import java.util.TreeSet;
 
-/** The public face of the document, and some rules of LANGUAGE.md that a look at the text tells. */
+/** The public face: each line of the document's, and nothing else. */
 public final class FaceTest {
-    private static final String[] FACE = {
-        "int set(int, int)", "int addCoil(int, int, int)", "int stock(int, int)", "int fill(int, int)",
-        "int buy(int, int, int, int, int)", "int look(int)", "int pass(int)", "int emptyBox()",
-        "int coil(int, int)", "float demand(int)", "int tube(int)", "int value(int)",
-        "int setting(int)", "int promise(int)", "int change(int, int)", "int mostPayable(int)",
-        "int coinFor(int)", "int priceIn(int, int)", "int salesInARow(int, int, int)",
-        "int favorite()", "int append(int)", "int clearText()", "int carryOut()", "int undo()",
+    static final String[] FACE = {
+        "int set(int what, int value) throws IllegalArgumentException",
+        "int addCoil(int kind, int lowest, int highest) throws IllegalArgumentException, IllegalStateException",
+        "int stock(int coil, int goods)"
+                + " throws IndexOutOfBoundsException, IllegalArgumentException, IllegalStateException",
+        "int fill(int tube, int coins) throws IndexOutOfBoundsException, IllegalArgumentException",
+        "int buy(int coil, int fives, int tens, int twenties, int fifties)"
+                + " throws IndexOutOfBoundsException, IllegalArgumentException, IllegalStateException",
+        "int look(int coil) throws IndexOutOfBoundsException",
+        "int pass(int hours) throws IllegalArgumentException, IllegalStateException",
+        "int emptyBox()",
+        "int coil(int coil, int what) throws IndexOutOfBoundsException, IllegalArgumentException",
+        "float demand(int coil) throws IndexOutOfBoundsException",
+        "int tube(int tube) throws IndexOutOfBoundsException",
+        "int value(int what) throws IllegalArgumentException",
+        "int setting(int what) throws IllegalArgumentException",
+        "int promise(int index) throws IndexOutOfBoundsException",
+        "int change(int amount, int tube) throws IllegalArgumentException, IndexOutOfBoundsException",
+        "int mostPayable(int bound) throws IllegalArgumentException",
+        "int coinFor(int amount) throws IllegalArgumentException",
+        "int priceIn(int coil, int hours) throws IndexOutOfBoundsException, IllegalArgumentException",
+        "int salesInARow(int coil, int tens, int fifties)"
+                + " throws IndexOutOfBoundsException, IllegalArgumentException",
+        "int favorite()",
+        "int append(int value) throws IllegalArgumentException, IllegalStateException",
+        "int clearText()",
+        "int carryOut()",
+        "int undo() throws IllegalStateException",
         "long digest()",
     };
-    private static final String[] FORBIDDEN = {
-        "import ", "package ", "->", "::", "Float.", "Double.", "Exact(", "finally", "synchronized",
-        "assert ", "catch", "Arrays.sort", "System.out", "System.nano", "System.current", "Random",
-        "hashCode", "toString", "equals(", "Throwable", "ArrayIndexOutOfBounds", "NullPointer",
-        "public static void", "protected ",
-    };
+    private static final Path DOCUMENT = Path.of("../shared/DOC.md");
+    private static final Path PROGRAM = Path.of("src/main/java/CoilPrices.java");
 
     private FaceTest() {
     }
 
     public static void main(String[] args) throws IOException {
+        linesOfTheDocument();
+        linesOfTheProgram();
         methods();
+        insideClasses();
         constructor();
         constants();
-        text();
         Check.finish();
     }
 
-    private static void methods() {
-        Set<String> due = new TreeSet<>(Set.of(FACE));
-        Set<String> names = new TreeSet<>();
-        for (Method method : CoilPrices.class.getDeclaredMethods()) {
-            if (Modifier.isPublic(method.getModifiers())) {
-                StringBuilder types = new StringBuilder();
-                for (Class<?> type : method.getParameterTypes()) {
-                    types.append(types.length() == 0 ? "" : ", ").append(type.getName());
-                }
-                String found = method.getReturnType() + " " + method.getName() + "(" + types + ")";
-                if (!due.remove(found)) {
-                    Check.complain("not in the face: " + found);
-                }
-                names.add(method.getName());
+    private static void mustBeEmpty(String what, Set<String> lines) {
+        for (String line : lines) {
+            Check.complain(what + ": " + line);
+        }
+    }
+
+    /** The face above must be the one that the document tells. */
+    private static void linesOfTheDocument() throws IOException {
+        if (!Files.exists(DOCUMENT)) {
+            return;
+        }
+        String text = Files.readString(DOCUMENT);
+        int start = text.indexOf("```java\n");
+        Set<String> told = new TreeSet<>();
+        for (String line : text.substring(start, text.indexOf("\n}\n", start)).split("\n")) {
+            if (line.startsWith("    public ") && line.contains("(")) {
+                told.add(line.substring("    public ".length(), line.length() - 1));
             }
         }
-        if (!due.isEmpty()) {
-            Check.complain("not there: " + due);
+        if (!told.remove("CoilPrices()")) {
+            Check.complain("the document tells no constructor");
         }
-        for (Class<?> type : CoilPrices.class.getDeclaredClasses()) {
-            notNamedLikeTheFace(type, names);
+        Set<String> face = new TreeSet<>(Set.of(FACE));
+        face.removeAll(told);
+        mustBeEmpty("the document does not tell", face);
+        told.removeAll(Set.of(FACE));
+        mustBeEmpty("the document tells besides", told);
+    }
+
+    /** With the names of the parameters, and the exceptions in their order. */
+    private static void linesOfTheProgram() throws IOException {
+        String text = Files.readString(PROGRAM).replaceAll("\\s+", " ");
+        for (String line : FACE) {
+            if (!text.contains(" public " + line + " {")) {
+                Check.complain("the program does not write: public " + line);
+            }
         }
+        if (!text.contains(" public static final int NONE = -1;")) {
+            Check.complain("the program does not write the constant NONE");
+        }
+    }
+
+    private static Set<String> withoutNames() {
+        Set<String> lines = new TreeSet<>();
+        for (String line : FACE) {
+            lines.add(line.replaceAll("\\bint [a-zA-Z]+([,)])", "int$1"));
+        }
+        return lines;
+    }
+
+    private static String listOf(Class<?>[] types) {
+        StringBuilder list = new StringBuilder();
+        for (Class<?> type : types) {
+            list.append(list.length() == 0 ? "" : ", ").append(type.getSimpleName());
+        }
+        return list.toString();
+    }
+
+    private static void methods() {
+        Set<String> due = withoutNames();
+        for (Method method : CoilPrices.class.getDeclaredMethods()) {
+            if (Modifier.isPublic(method.getModifiers())) {
+                String thrown = listOf(method.getExceptionTypes());
+                String found = method.getReturnType() + " " + method.getName() + "("
+                        + listOf(method.getParameterTypes()) + ")" + (thrown.isEmpty() ? "" : " throws " + thrown);
+                if (method.getModifiers() != Modifier.PUBLIC || !due.remove(found)) {
+                    Check.complain("not in the face: " + method);
+                }
+            }
+        }
+        mustBeEmpty("not there", due);
+    }
+
+    private static Set<String> names() {
+        Set<String> names = new TreeSet<>();
+        for (String line : FACE) {
+            names.add(line.substring(line.indexOf(' ') + 1, line.indexOf('(')));
+        }
+        return names;
+    }
+
+    /** What is not of the face is private, and does not bear a name of it. */
+    private static void insideClasses() {
+        Set<String> names = names();
         for (Method method : CoilPrices.class.getDeclaredMethods()) {
             boolean isPublic = Modifier.isPublic(method.getModifiers());
             boolean isPrivate = Modifier.isPrivate(method.getModifiers());
@@ -66,15 +147,15 @@ public final class FaceTest {
                 Check.complain("neither face nor private, or named like the face: " + method);
             }
         }
-    }
-
-    private static void notNamedLikeTheFace(Class<?> type, Set<String> names) {
-        if (Modifier.isPublic(type.getModifiers()) || !Modifier.isStatic(type.getModifiers())) {
-            Check.complain("public or not static: " + type);
-        }
-        for (Method method : type.getDeclaredMethods()) {
-            if (names.contains(method.getName())) {
-                Check.complain("named like a method of the face: " + method);
+        for (Class<?> type : CoilPrices.class.getDeclaredClasses()) {
+            int modifiers = type.getModifiers();
+            if (Modifier.isPublic(modifiers) || Modifier.isProtected(modifiers) || !Modifier.isStatic(modifiers)) {
+                Check.complain("public, protected or not static: " + type);
+            }
+            for (Method method : type.getDeclaredMethods()) {
+                if (names.contains(method.getName())) {
+                    Check.complain("named like a method of the face: " + method);
+                }
             }
         }
     }
@@ -83,8 +164,11 @@ public final class FaceTest {
         Constructor<?>[] constructors = CoilPrices.class.getDeclaredConstructors();
         Check.due("the constructors", constructors.length, 1);
         Check.due("its parameters", constructors[0].getParameterCount(), 0);
+        Check.due("its exceptions", constructors[0].getExceptionTypes().length, 0);
         Check.due("it is public", constructors[0].getModifiers(), Modifier.PUBLIC);
         Check.due("the class", CoilPrices.class.getModifiers(), Modifier.PUBLIC | Modifier.FINAL);
+        Check.due("the class it extends is Object", CoilPrices.class.getSuperclass() == Object.class ? 1 : 0, 1);
+        Check.due("its interfaces", CoilPrices.class.getInterfaces().length, 0);
     }
 
     private static void constants() {
@@ -95,17 +179,8 @@ public final class FaceTest {
             if (isNone != Modifier.isPublic(modifiers) || isNone == Modifier.isPrivate(modifiers)) {
                 Check.complain("a field of the face: " + field);
             }
-            if (Modifier.isStatic(modifiers) && !Modifier.isFinal(modifiers)) {
-                Check.complain("a static field that is not final: " + field);
-            }
-        }
-    }
-
-    private static void text() throws IOException {
-        String text = Files.readString(Path.of("src/main/java/CoilPrices.java"));
-        for (String word : FORBIDDEN) {
-            if (text.contains(word)) {
-                Check.complain("LANGUAGE.md does not leave: " + word);
+            if (isNone && modifiers != (Modifier.PUBLIC | Modifier.STATIC | Modifier.FINAL)) {
+                Check.complain("not a constant: " + field);
             }
         }
     }

@@ -146,7 +146,8 @@ final class Machines {
         Check.due(when + ": clearText()", x.clearText(), twin.clearText());
     }
 
-    private static void mustLookSame(String when, CoilPrices x, CoilPrices twin) {
+    /** All that the calls for values tell must be the same of both. */
+    static void mustLookSame(String when, CoilPrices x, CoilPrices twin) {
         List<Long> got = picture(x);
         List<Long> due = picture(twin);
         if (!got.equals(due)) {
